@@ -40,7 +40,7 @@ public final class CipherNotation {
     private static final int NOT_UNDONE = 5;
     private static final int TOO_LARGE = 6;
 
-    // what a line of a program does and a part of an expression is, told by its sign in the text where it has one of its own
+    // what a line of a program does, and what a part of an expression is: others are told by their sign in the text
     private static final int WRITING = '>';
     private static final int LOOP = '[';
     private static final int LOOP_END = ']';
@@ -315,7 +315,7 @@ public final class CipherNotation {
         final int[] kind;
         // the STATE that a step changes, the LETTER of a loop (0 is i)
         final int[] subject;
-        // the number, STATE or table behind the sign of a step, a loop's turns, for a loop's end the line of its beginning
+        // the number, STATE or table behind a step's sign, a loop's turns, for a loop's end the line of its beginning
         final int[] operand;
         // the parts of its expression, or the numbers behind @, are first .. end - 1 of the code
         final int[] first;
@@ -439,12 +439,17 @@ public final class CipherNotation {
         }
     }
 
-    /** Reads a text into a program, sign by sign; what it reads by answers false or NONE at the sign that cannot stand there. */
+    /**
+     * Reads a text into a program, sign by sign: as any sign that may stand somewhere can be followed up to a whole
+     * description, the first one that may not stand where it does is the place of the fault that makes it none.
+     * What reads a piece of the text answers false or NONE there, with that sign as the next one to read.
+     */
     private static final class Reader {
         static final char END = 0;
         static final int CODES = 8;
-        static final int NOTHING_NOTED = Integer.MAX_VALUE;
-        static final long NO_BOUND = Long.MAX_VALUE;
+        static final int NOTHING_NOTED = (MOST_CHARACTERS + 1) * CODES;
+        // above all numbers of nine digits
+        static final int NO_BOUND = 1000000000;
 
         // the text without its blanks, END behind it, and where its signs stand
         private final char[] signs;
@@ -536,8 +541,11 @@ public final class CipherNotation {
             return sign == 'i' || sign == 'j';
         }
 
-        /** Digits behind a blank or nine others are left: nothing that may follow a number is one, so they are refused then. */
-        private int takeNumber(long bound) {
+        /**
+         * Notes a fault when the number is bound or more. Digits behind a blank, or behind nine others, are left to be
+         * refused: nothing that may follow a number begins with one.
+         */
+        private int takeNumber(int bound) {
             int first = at;
             int value = 0;
             for (int n = 0; n < MOST_DIGITS && isDigit(signs[at]) && places[at] == places[first] + n; n++) {
@@ -563,10 +571,9 @@ public final class CipherNotation {
             return which;
         }
 
-        /** 2 to the width, if a number of nine digits can be so great. */
-        private long wordBound() {
+        private int wordBound() {
             int width = program.numbers[WIDTH];
-            return width < 32 ? 1L << width : NO_BOUND;
+            return width <= 16 ? 1 << width : NO_BOUND;
         }
 
         private boolean sizes() {
@@ -943,8 +950,8 @@ public final class CipherNotation {
         }
 
         /**
-         * Whether an index comes up to a count in some turn, where the count may grow with the subkeys that are written:
-         * both grow evenly, so the index is greatest against the count in the first or the last turn of each loop.
+         * Whether an index comes up to a count in some turn, where the count may grow as subkeys are written: both grow
+         * evenly, so the index is greatest against the count in the first or the last turn of each loop.
          */
         private boolean comesUpTo(int part, int count, boolean isGrowing) {
             long moreByI = code.perI[part] - (isGrowing ? growth[0] : 0);
