@@ -1002,7 +1002,7 @@ public final class CipherNotation {
     /** The words of a program, and what its code does with them. */
     private static final class Machine {
         // twelve open brackets hold a value each beside the one at work
-        static final int MOST_VALUES = MOST_SIGNS_OPEN + 2;
+        static final int MOST_VALUES = MOST_SIGNS_OPEN + 1;
 
         final long[] keys;
         final long[] states;

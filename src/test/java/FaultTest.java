@@ -18,6 +18,7 @@ public final class FaultTest {
         blanks();
         programStays();
         everyBeginning();
+        oneBehindAnother();
         check.end();
     }
 
@@ -120,6 +121,8 @@ public final class FaultTest {
         fault(1, HEAD + "A^=" + ALL_OPEN + "!(B^1)}");
         fault(1, HEAD + "A^=" + ALL_OPEN + "!~B}");
         fault(1, HEAD + "A^=~~~~~~~~~~~~!~B;}");
+        fault(1, "16:2:1;{>~~~~~~~~~~~~!~1;}{}");
+        fine("16:2:1;{>~~~~~~~~~~~~1;}{}");
         fault(1, HEAD + "A^=(~~~~~~~~~~~B^~~~~~~~~~~~!~B);}");
         fine(HEAD + "A^=~~~~~~~~~~~~B;}");
         fine(HEAD + "A^=(~~~~~~~~~~~B^~~~~~~~~~~~B);}");
@@ -241,6 +244,7 @@ public final class FaultTest {
         fault(5, "16:2:1;{}{!A*=0;}");
         fault(5, "16:2:1;#*2+1;{}{!A#0;}");
         fault(5, "16:2:1;#*3+1;#0123456789abcde0;{}{A#0;!B#1;}");
+        fault(5, "16:2:1;#1123456789abcdef;{}{!A#0;}");
         fine("16:2:1;#*2+1;#*3+1;{}{B#1;}");
         fault(5, "16:2:1;{}{!A@1,1;}");
         fault(5, "16:2:1;{}{!A@1,2,3,4;}");
@@ -315,10 +319,31 @@ public final class FaultTest {
         String text = "16:3:2;#63f1b2c4d5e7980a;#*5+03;{i4[>((K(0)+(i*40503))<3);j2[>~S(i+j);]]}"
             + "{A^=(B|C);i2[B-=~K(i);C@1,2,3;j3[A<C;A*=5;A#1;]]A:B; }";
         fine(text);
+        CipherNotation used = Check.running(text);
         for (int length = 0; length < text.length(); length++) {
-            CipherNotation x = new CipherNotation();
-            check.due("compile() of a beginning", Check.compile(x, text.substring(0, length)), 1);
-            check.due("place() of a beginning", x.place(), length);
+            if (length % 10 == 0) {
+                used = Check.running(text);
+            }
+            for (CipherNotation x : new CipherNotation[] {new CipherNotation(), used}) {
+                check.due("compile() of a beginning", Check.compile(x, text.substring(0, length)), 1);
+                check.due("place() of a beginning", x.place(), length);
+            }
         }
+    }
+
+    /** What is left of one text, loops that stayed open too, has no part in how the next one is read. */
+    private static void oneBehindAnother() {
+        CipherNotation x = new CipherNotation();
+        String[] texts = {"16:2:4;{i4[>(K(i)+(j*3));j4[", "16:2:4;{}{A^=i;}", "16:2:4;{i0[j4[>1;]]}{}",
+            "16:2:1;{>1;>S(0);}{A^=S(1);}", "16:2:4;{i4[j1[>K(i+j);]]}{", "16:2:1;{>K(0);}{i2[A+=S(0);]}"};
+        int[] codes = {1, 4, 3, 0, 1, 0};
+        int[] places = {28, 13, 9, -1, 26, -1};
+        for (int n = 0; n < texts.length; n++) {
+            check.due("compile() of " + texts[n], Check.compile(x, texts[n]), codes[n]);
+            check.due("place() of " + texts[n], x.place(), places[n]);
+        }
+        x.key(0, 21);
+        x.encrypt();
+        check.due("A at last", x.word(0), 42);
     }
 }

@@ -99,9 +99,33 @@ public final class PromiseTest {
         x.state(3, 2);
         x.encrypt();
         check.due("D + 255", x.word(3), 1);
+        for (int i = 0; i < 4; i++) {
+            x.state(i, 9);
+        }
         check.due("compile() again", x.compile(), 0);
-        check.due("D", x.word(3), 0);
+        for (int i = 0; i < 4; i++) {
+            check.due("a state word behind compile()", x.word(i), 0);
+        }
+        Check.compile(x, CIPHER);
+        for (int i = 0; i < 4; i++) {
+            x.key(i, 9);
+        }
+        check.due("compile() again", x.compile(), 0);
+        for (int i = 0; i < 4; i++) {
+            check.due("a key word behind compile()", x.keyWord(i), 0);
+        }
         longTexts();
+        manyTexts();
+    }
+
+    /** All calls that an object is made for, each with as much to read as there may be. */
+    private static void manyTexts() {
+        CipherNotation x = new CipherNotation();
+        Check.write(x, "8:2:1;{}{" + "A^=~~~~~~~~~~~~B;".repeat(13) + "A<1; }");
+        for (int n = 0; n < 470; n++) {
+            check.due("compile() of a long text", x.compile(), 0);
+        }
+        check.due("its steps", x.number(5), 14);
     }
 
     private static void longTexts() {
@@ -120,6 +144,9 @@ public final class PromiseTest {
         check.due("its length", full.length(), 239);
         check.due("compile() of many steps in loops", Check.compile(x, full), 0);
         check.due("their number", x.number(5), 220);
+        String lines = "8:2:1;{}{" + "i1[j1[A<1;]]".repeat(19) + "}";
+        check.due("compile() of steps in loops of their own", Check.compile(x, lines), 0);
+        check.due("their number", x.number(5), 19);
         String deep = "(B^".repeat(12) + "B" + ")".repeat(12);
         check.due("compile() of deep brackets", Check.compile(x, "8:2:1;{}{A^=" + deep + ";}"), 0);
         x.state(1, 129);
