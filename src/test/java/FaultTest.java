@@ -22,27 +22,16 @@ public final class FaultTest {
         check.end();
     }
 
-    /** The place is where the mark ! stands in the text, which is taken out. */
     private static void fault(int code, String marked) {
-        int place = marked.indexOf('!');
-        String text = marked.substring(0, place) + marked.substring(place + 1);
-        CipherNotation x = new CipherNotation();
-        check.due("compile() of " + text, Check.compile(x, text), code);
-        check.due("place() of " + text, x.place(), place);
-        check.refuses("number(0) behind " + text, IllegalStateException.class, () -> x.number(0));
+        check.fault(code, marked);
     }
 
     private static void fine(String text) {
-        CipherNotation x = new CipherNotation();
-        check.due("compile() of " + text, Check.compile(x, text), 0);
-        check.due("place() of " + text, x.place(), CipherNotation.NONE);
+        check.fine(text);
     }
 
     private static void large(String text) {
-        CipherNotation x = new CipherNotation();
-        check.due("compile() of " + text, Check.compile(x, text), 6);
-        check.due("place() of " + text, x.place(), CipherNotation.NONE);
-        check.refuses("number(0) behind " + text, IllegalStateException.class, () -> x.number(0));
+        check.large(text);
     }
 
     private static void signs() {
