@@ -10,6 +10,11 @@ public final class CallBoundaryTest {
     private static final String[] BY_CODE = {"16:2:1;{}{}", "16:2:1;{}{", "9:2:1;{}{}", "16:2:1;{>65536;}{}",
         "16:2:1;{>A;}{}", "16:2:1;{}{A^=A;}", "16:2:1;{i11[j3[>1;]]}{}"};
     private static final int[] PLACES = {NONE, 10, 0, 9, 9, 10, NONE};
+    /** Texts that leave much behind: loops open, LETTERS, tables, subkeys, faults of several kinds. */
+    private static final String[] ONE_BEHIND_ANOTHER = {"", SMALL, "16:2:4;{i4[>(K(i)+(j*3));j4[", "16:2:4;{}{A^=i;}",
+        "16:2:4;{i0[j4[>1;]]}{}", "16:2:1;{>1;>S(0);}{A^=S(1);}", "16:2:4;{i4[j1[>K(i+j);]]}{",
+        "64:2:4;{i4[>K(i);]}{j2[A+=j;]}", "64:2:1;{i4[j4[>5;>(6+K(0));]]}{A+=S(31);}", "8:2:1;{i16[j16[>1;]]}{}",
+        "8:3:1;#*3+0;{>K(0);}{A#0;B+=(S(0)+1);C^=(B-7);}", "8:2:1;#*1+0;#*2+0;#"};
     private static final Class<IllegalStateException> STATE = IllegalStateException.class;
     private static final Class<IllegalArgumentException> ARGUMENT = IllegalArgumentException.class;
     private static final Class<IndexOutOfBoundsException> INDEX = IndexOutOfBoundsException.class;
@@ -24,6 +29,7 @@ public final class CallBoundaryTest {
         wipeEmpty();
         wipeCount();
         compileAgain();
+        compileOneBehindAnother();
         compileFaults();
         compileKeepsText();
         placeOfFaults();
@@ -234,6 +240,34 @@ public final class CallBoundaryTest {
         for (int i = 0; i < 4; i++) {
             check.due("key word " + i + " at last", x.keyWord(i), 0);
             check.due("state word " + i + " at last", x.word(i), 0);
+        }
+    }
+
+    /** All that can be seen when a text is read and run. */
+    private static String answers(CipherNotation x, String text) {
+        StringBuilder answers = new StringBuilder();
+        int code = Check.compile(x, text);
+        answers.append(code).append(' ').append(x.place());
+        if (code == 0) {
+            x.key(0, 21);
+            answers.append(' ').append(x.encrypt()).append(' ').append(Check.picture(x));
+        }
+        return answers.toString();
+    }
+
+    private static void compileOneBehindAnother() {
+        check.sentence("Promise 4: compile",
+            "Reads the text: 0 when it has no fault, and it is the PROGRAM from then on", "nothing of texts before it");
+        for (String last : ONE_BEHIND_ANOTHER) {
+            String due = answers(new CipherNotation(), last);
+            for (String first : ONE_BEHIND_ANOTHER) {
+                for (String second : ONE_BEHIND_ANOTHER) {
+                    CipherNotation x = new CipherNotation();
+                    Check.compile(x, first);
+                    Check.compile(x, second);
+                    check.due(last + " behind " + first + " and " + second, answers(x, last), due);
+                }
+            }
         }
     }
 

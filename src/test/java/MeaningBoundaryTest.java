@@ -19,6 +19,7 @@ public final class MeaningBoundaryTest {
         subkeysWrittenInAll();
         allBitsTurned();
         partsTurnedRound();
+        twelveOpen();
         nextSubkeys();
         simpleSteps();
         turnedByANumber();
@@ -36,7 +37,7 @@ public final class MeaningBoundaryTest {
     }
 
     private static CipherNotation running(int width, String steps, long... words) {
-        CipherNotation x = Check.running(width + ":4:1;#fedcba9876543210;#*15+15;{}{" + steps + "}");
+        CipherNotation x = Check.running(width + ":4:1;#63f1b2c4d5e7980a;#*5+3;{}{" + steps + "}");
         for (int i = 0; i < words.length; i++) {
             x.state(i, words[i]);
         }
@@ -73,6 +74,10 @@ public final class MeaningBoundaryTest {
             value(top, width, "(X|1)", top - 1);
             value(0, width, "(X&0)", top);
             value(top, width, "(X^~X)", 5);
+            value(0, width, "(X^X)", top);
+            value(1, width, "(X^~1)", top);
+            value(top - 1, width, "(X&~1)", top);
+            value(top, width, "(X|~1)", 1);
             becomes(top, width, "A^=B;", 0, top);
             becomes(0, width, "A^=B;", top, top);
             becomes(top, width, "A:B;", 0, top);
@@ -92,7 +97,7 @@ public final class MeaningBoundaryTest {
         value(Long.MAX_VALUE, 64, "(X-1)", Long.MIN_VALUE);
         becomes(Long.MIN_VALUE, 64, "A<B;", 1, -1);
         becomes(1, 64, "A<B;", 1, Long.MIN_VALUE);
-        becomes(0x0123456789ABCDEFL, 64, "A#0;", 0xFEDCBA9876543210L);
+        becomes(0xA0897E5D4C2B1F36L, 64, "A#0;", 0xFEDCBA9876543210L);
     }
 
     private static void sums() {
@@ -285,6 +290,21 @@ public final class MeaningBoundaryTest {
         }
     }
 
+    private static void twelveOpen() {
+        check.sentence("Terms, the description",
+            "At most twelve of ~ and ( (those of an INDEX not counted) are open, one inside the other, "
+            + "in an expression.", "what these mean");
+        for (int width : WIDTHS) {
+            value(13, width, "(X+".repeat(12) + "X" + ")".repeat(12), 1);
+            value(13, width, "(".repeat(12) + "X" + "+X)".repeat(12), 1);
+            value(7, width, "(X-".repeat(12) + "7" + ")".repeat(12), 1);
+            value(Check.top(width) - 10, width, "(".repeat(12) + "X" + "-1)".repeat(12), 1);
+            value(1, width, "~".repeat(12) + "X", 1);
+            value(Check.top(width) - 1, width, "~".repeat(11) + "X", 1);
+            value(16, width, "(".repeat(12) + "X" + "<1)".repeat(12), 1L << width - 8);
+        }
+    }
+
     private static void nextSubkeys() {
         check.sentence(MEANING,
             "Done in their order, each WRITING > makes the next SUBKEY (0, 1, ..) the value of its "
@@ -361,12 +381,14 @@ public final class MeaningBoundaryTest {
         check.sentence(MEANING, "# puts in place of each of its four-bit digits (w / 4 of them) that of the table");
         for (int width : WIDTHS) {
             long top = Check.top(width);
-            becomes(top, width, "A#0;", 0);
-            becomes(0, width, "A#0;", top);
-            becomes(top - 1, width, "A#0;", 1);
-            becomes(top ^ 8L << width - 4, width, "A#0;", 8L << width - 4);
-            becomes(top & 0x0123456789ABCDEFL, width, "A#0;", top & 0xFEDCBA9876543210L);
-            becomes(top & 0x0123456789ABCDEFL, width, "A#1;", top & 0xFEDCBA9876543210L);
+            becomes(top & 0x6666666666666666L, width, "A#0;", 0);
+            becomes(top & 0xAAAAAAAAAAAAAAAAL, width, "A#0;", top);
+            becomes(top & 0x6666666666666663L, width, "A#0;", 1);
+            becomes(0xDL << width - 4 | top >>> 4 & 0x6666666666666666L, width, "A#0;", 8L << width - 4);
+            becomes(top & 0xA0897E5D4C2B1F36L, width, "A#0;", top & 0xFEDCBA9876543210L);
+            becomes(top & 0x63F1B2C4D5E7980AL, width, "A#0;", top & 0x0123456789ABCDEFL);
+            becomes(top & 0x3333333333333333L, width, "A#1;", 0);
+            becomes(top & 0x38D27C16B05AF49EL, width, "A#1;", top & 0x0123456789ABCDEFL);
         }
     }
 

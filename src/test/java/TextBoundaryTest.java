@@ -197,6 +197,13 @@ public final class TextBoundaryTest {
         check.fine("8:2:1;{" + "i1[]".repeat(57) + "}{}");
         check.fine("8:2:1;{}{" + "j1[]".repeat(57) + "}");
         check.fine("8:2:1;{}{i1[" + "j1[]".repeat(56) + "]}");
+        CipherNotation subkeys = Check.running("8:2:1;{" + "i1[j1[>1;]]".repeat(20) + "}{}");
+        check.due("subkeys in loops of their own", subkeys.number(4), 20);
+        CipherNotation steps = Check.running("8:2:1;{}{" + "i1[j1[A<1;]]".repeat(19) + "}");
+        check.due("steps in loops of their own", steps.number(5), 19);
+        CipherNotation x = Check.running("8:2:1;{}{i16[" + "j16[]".repeat(43) + "]A+=9;}");
+        x.encrypt();
+        check.due("A by the step behind many turns of nothing", x.word(0), 9);
     }
 
     private static void signsThatAreNoStars() {
