@@ -2,6 +2,7 @@
 public final class FaultBoundaryTest {
     private static final Check check = new Check("FaultBoundaryTest");
     private static final String FAULTS = "Terms, faults";
+    private static final String MEANING = "Terms, what it means";
     private static final int[] WIDTHS = {8, 16, 32, 64};
     /** A description with every sign there is. */
     private static final String WHOLE = "16:3:2;#63f1b2c4d5e7980a;#*5+03;{i4[>((K(0)+(i*40503))<3);j2[>~S(i+j);]]}"
@@ -29,6 +30,7 @@ public final class FaultBoundaryTest {
         someTurn();
         indexesWithoutLoops();
         loopsAboveSixteen();
+        indexesBeforeLoops();
         statesBeyond();
         statesInWritings();
         letters();
@@ -352,12 +354,59 @@ public final class FaultBoundaryTest {
 
     private static void loopsAboveSixteen() {
         check.sentence(FAULTS, "(see below; a loop whose number is above 16 counts there as one of 16 turns)");
-        // the loop's own fault stands before all that could show how many turns are counted
+        // behind the loop's number its own fault stands first
         check.fault(3, "8:2:1;{i!17[>K(i);]}{}");
         check.fault(3, "8:2:4;{i!999999999[j16[>K(i);]]}{}");
         check.fault(3, "8:2:1;{i!999999999[j999999999[>1;]]}{A^=S(255);}");
         check.fault(3, "8:2:1;{}{i!17[A^=K(999999999i);]}");
         check.fault(3, "8:2:1;{}{j16[i!17[A^=S(i);]]}");
+        // before it an index shows how many subkeys that loop has written in the turn before: 16 of its turns
+        check.large("8:2:1;{>1;i2[>S(17i);j16[>1;]]}{}");
+        check.fault(3, "8:2:1;{>1;i2[>!S(18i);j16[>1;]]}{}");
+        for (String turns : new String[] {"17", "18", "160", "999999999"}) {
+            check.fault(3, "8:2:1;{>1;i2[>S(17i);j!" + turns + "[>1;]]}{}");
+            check.fault(3, "8:2:1;{>1;i2[>!S(18i);j" + turns + "[>1;]]}{}");
+            check.fault(3, "8:2:1;{>1;j2[>S(33j);i!" + turns + "[>1;>1;]]}{}");
+            check.fault(3, "8:2:1;{>1;j2[>!S(34j);i" + turns + "[>1;>1;]]}{}");
+        }
+    }
+
+    private static void indexesBeforeLoops() {
+        check.sentence(MEANING,
+            "an index is TOO GREAT when there is no such key word, or, within a WRITING, when not that many and one "
+            + "more subkeys were written before", "by a loop behind it, in the turns before");
+        for (int outer = 1; outer <= 3; outer++) {
+            for (int inner = 0; inner <= 19; inner++) {
+                for (int factor = 0; factor <= 36; factor++) {
+                    indexBeforeLoop(outer, inner, factor);
+                }
+            }
+        }
+        // in a loop of the same LETTER the turns are counted all the same
+        check.fault(4, "8:2:1;{>1;i2[>S(3i);!i2[>1;]]}{}");
+        check.fault(3, "8:2:1;{>1;i2[>!S(4i);i2[>1;]]}{}");
+    }
+
+    /** Two subkeys, then a loop of a WRITING that looks back and a loop of WRITINGS behind it. */
+    private static void indexBeforeLoop(int outer, int inner, int factor) {
+        String before = "8:2:1;{>1;>1;i" + outer + "[>";
+        String between = "S(1+" + factor + "i);j";
+        String text = before + between + inner + "[>1;]]}{}";
+        int written = 2;
+        boolean isTooGreat = false;
+        for (int i = 0; i < outer; i++) {
+            isTooGreat |= 1 + factor * i >= written;
+            written += 1 + Math.min(inner, 16);
+        }
+        if (isTooGreat) {
+            check.faultAt(before.length(), 3, text);
+        } else if (inner < 1 || inner > 16) {
+            check.faultAt(before.length() + between.length(), 3, text);
+        } else if (written > 32) {
+            check.large(text);
+        } else {
+            check.fine(text);
+        }
     }
 
     private static void statesBeyond() {

@@ -5,7 +5,8 @@ import java.util.Random;
 /** Many texts that TextMaker makes, with every answer of the program against what Grammar and Oracle work out. */
 public final class OracleTest {
     private static final Check check = new Check("OracleTest");
-    private static final int TEXTS = Integer.getInteger("texts", 6000);
+    private static final int USUAL = 6000;
+    private static final int TEXTS = Integer.getInteger("texts", USUAL);
     private static final Random random = new Random(Long.getLong("seed", 7));
     private static final int[] codes = new int[7];
 
@@ -37,7 +38,9 @@ public final class OracleTest {
         StringBuilder seen = new StringBuilder("texts by code:");
         for (int code = 0; code < codes.length; code++) {
             seen.append(' ').append(codes[code]);
-            check.due("texts with code " + code + " are enough", codes[code] > TEXTS / 300 ? 1 : 0, 1);
+            // a few texts may well lack a code
+            boolean isEnough = TEXTS < USUAL || codes[code] > TEXTS / 300;
+            check.due("texts with code " + code + " are enough", isEnough ? 1 : 0, 1);
         }
         System.out.println(seen);
         check.end();

@@ -23,6 +23,10 @@ final class TextMaker {
         do {
             text = new StringBuilder();
             carelessness = random.nextInt(3) == 0 ? 0.03 : 0.001;
+            if (random.nextInt(8) == 0) {
+                lookingBack();
+                break;
+            }
             description();
             if (random.nextInt(3) == 0) {
                 spoil();
@@ -60,6 +64,37 @@ final class TextMaker {
         isWritings = false;
         things(random.nextInt(9));
         text.append('}');
+    }
+
+    /** A description of loops whose WRITINGS look back at those of turns before, some a little too far. */
+    private void lookingBack() {
+        text.append("8:2:1;{>1;>2;");
+        open = "";
+        for (int n = random.nextInt(2); n >= 0; n--) {
+            loopLookingBack();
+        }
+        text.append("}{}");
+    }
+
+    private void loopLookingBack() {
+        char letter = open.equals("i") ? 'j' : open.equals("j") ? 'i' : random.nextBoolean() ? 'i' : 'j';
+        int turns = random.nextInt(open.isEmpty() ? 6 : 2) == 0 ? 15 + random.nextInt(4) : random.nextInt(4);
+        text.append(letter).append(turns).append('[');
+        open += letter;
+        for (int n = random.nextInt(4); n > 0; n--) {
+            if (open.length() < 2 && random.nextInt(2) == 0) {
+                loopLookingBack();
+            } else {
+                text.append(">S(").append(random.nextInt(3));
+                for (int k = 0; k < open.length(); k++) {
+                    int factor = random.nextBoolean() ? random.nextInt(4) : 16 + random.nextInt(4);
+                    text.append('+').append(factor).append(open.charAt(k));
+                }
+                text.append(");");
+            }
+        }
+        open = open.substring(0, open.length() - 1);
+        text.append(']');
     }
 
     private void table() {
@@ -184,7 +219,7 @@ final class TextMaker {
             text.append(n == 0 ? "" : "+");
             boolean hasLetter = !open.isEmpty() && random.nextInt(2) == 0 || slip();
             if (!hasLetter || random.nextInt(3) == 0) {
-                int most = n == 0 && !hasLetter ? Math.max(1, count) : 2;
+                int most = n == 0 && !hasLetter ? Math.max(1, count) : random.nextInt(10) == 0 ? 20 : 2;
                 text.append(number(random.nextInt(random.nextInt(200) == 0 ? 1000000000 : most)));
             }
             text.append(hasLetter ? String.valueOf(letter()) : "");
