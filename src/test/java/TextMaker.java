@@ -22,20 +22,24 @@ final class TextMaker {
     String next() {
         do {
             text = new StringBuilder();
-            carelessness = random.nextInt(3) == 0 ? 0.03 : 0.001;
             if (random.nextInt(8) == 0) {
                 lookingBack();
-                break;
-            }
-            description();
-            if (random.nextInt(3) == 0) {
-                spoil();
-            }
-            if (random.nextInt(3) == 0) {
-                spread();
+            } else {
+                descriptionOrNearlyOne();
             }
         } while (text.length() > 240);
         return text.toString();
+    }
+
+    private void descriptionOrNearlyOne() {
+        carelessness = random.nextInt(3) == 0 ? 0.03 : 0.001;
+        description();
+        if (random.nextInt(3) == 0) {
+            spoil();
+        }
+        if (random.nextInt(3) == 0) {
+            spread();
+        }
     }
 
     private boolean slip() {
